@@ -641,16 +641,16 @@ public final class InkLake {
     private int drawDryBrooks() {
         int dry = 0;
         for (int brook = 0; brook < shore.counts[BROOKS]; brook++) {
-            if (drawOf(HUNDRED) < shore.drought) {
+            if (drawOfHundred() < shore.drought) {
                 dry |= 1 << brook;
             }
         }
         return dry;
     }
 
-    private int drawOf(int m) {
-        seedNow = 1103515245L * seedNow + 12345L & 0x7fffffffL;
-        return (int) (seedNow / 64 % m);
+    private int drawOfHundred() {
+        seedNow = (1103515245L * seedNow + 12345L) % 0x80000000L;
+        return (int) (seedNow / 64 % HUNDRED);
     }
 
     private int reckonAsked(int deed) {
@@ -773,7 +773,11 @@ public final class InkLake {
         }
 
         int darkness() {
-            return buckets <= 0 ? 0 : Math.min(AMOUNT_MOST, HUNDRED * grains / buckets);
+            if (buckets <= 0) {
+                return 0;
+            }
+            int share = HUNDRED * grains / buckets;
+            return share > AMOUNT_MOST ? AMOUNT_MOST : share;
         }
 
         boolean isWritten(int deed) {
@@ -1001,7 +1005,7 @@ public final class InkLake {
                 }
             }
             int over = Math.max(0, lake.buckets - shore.holds);
-            if (over > 0) {
+            if (over > 0 && lake.buckets > 0) {
                 lake.grains = lake.grains * shore.holds / lake.buckets;
                 lake.buckets = shore.holds;
             }
@@ -1076,7 +1080,7 @@ public final class InkLake {
         }
 
         private static int between(int least, long number, int most) {
-            return (int) Math.max(least, Math.min(number, most));
+            return number < least ? least : number > most ? most : (int) number;
         }
     }
 
@@ -1412,7 +1416,7 @@ public final class InkLake {
 
         private void readTest() {
             readBoth();
-            while (fault == 0 && next() == OR) {
+            while (at < marks.count && fault == 0 && next() == OR) {
                 at++;
                 readBoth();
                 sums.put(OR);
@@ -1421,7 +1425,7 @@ public final class InkLake {
 
         private void readBoth() {
             readFact();
-            while (fault == 0 && next() == AND) {
+            while (at < marks.count && fault == 0 && next() == AND) {
                 at++;
                 readFact();
                 sums.put(AND);
@@ -1460,7 +1464,7 @@ public final class InkLake {
 
         private void readSum() {
             readProduct();
-            while (fault == 0 && (next() == '+' || next() == '-')) {
+            while (at < marks.count && fault == 0 && (next() == '+' || next() == '-')) {
                 int sign = next();
                 at++;
                 readProduct();
@@ -1470,7 +1474,7 @@ public final class InkLake {
 
         private void readProduct() {
             readPart();
-            while (fault == 0 && (next() == '*' || next() == '/')) {
+            while (at < marks.count && fault == 0 && (next() == '*' || next() == '/')) {
                 int sign = next();
                 at++;
                 readPart();

@@ -15,7 +15,7 @@ public final class RandomTest {
     private final Random random;
     private final StringBuilder text = new StringBuilder();
     private final List<String> villages = new ArrayList<>();
-    private int nested;
+    private int deepest;
 
     private RandomTest(long seed) {
         random = new Random(seed);
@@ -81,16 +81,16 @@ public final class RandomTest {
     }
 
     private void part(String parts, int depth) {
-        int kind = below(depth > 4 ? 5 : 8);
+        int kind = below(depth > deepest ? 5 : onceIn(3) && deepest > 5 ? 20 : 8);
         if (kind < 2) {
             put(onceIn(4) ? between(0, 9999) : below(100));
         } else if (kind < 5) {
             String word = pick(parts);
             put(word);
             if (word.equals("by")) {
-                part(depth > 4 ? "1 0 2 number" : parts, depth + 1);
+                part(depth > deepest ? "1 0 2 number" : parts, depth + 1);
             }
-        } else if (kind == 5) {
+        } else if (kind == 5 || kind > 8) {
             put("(");
             sum(parts, depth + 1);
             put(")");
@@ -112,7 +112,7 @@ public final class RandomTest {
     }
 
     private void fact(String parts, int depth) {
-        int kind = below(depth > 4 ? 4 : 7);
+        int kind = below(depth > deepest ? 4 : 7);
         if (kind == 0) {
             put("all");
         } else if (kind == 4) {
@@ -135,6 +135,7 @@ public final class RandomTest {
 
     /** A SHORE whose FAULTS, if it has any, are NAMES told twice or too much nesting. */
     private String shore() {
+        deepest = onceIn(5) ? 7 : 3;
         text.setLength(0);
         villages.clear();
         int holds = between(1, onceIn(3) ? 9999 : 200);
@@ -192,6 +193,7 @@ public final class RandomTest {
     }
 
     private String question() {
+        deepest = onceIn(5) ? 7 : 3;
         text.setLength(0);
         String parts = "number needs worth miles term draws ink age season by";
         if (onceIn(2)) {
