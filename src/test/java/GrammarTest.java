@@ -288,6 +288,7 @@ public final class GrammarTest {
         good("brook first gives 0 black 0;village total miles 0;deed often of total needs 1 worth 0 by 0;", 4);
         good("brook abcdef gives 0001 black 0;", 2);
         good("dries 0;dries 100;reads 0;reads 9999;drought 0;drought 100;", 7);
+        good("brook b gives 999 black 999;village v miles 99;deed d of v needs 999 worth 99 by 99;", 4);
         good("\n brook\nb gives\n\n1 black 1\n;\n \n", 2);
         good("draws(1);fades min(ink,age);may[all]or not[all]and(1)>2;", 4);
         good("draws level-dark*season/miles+worth+needs+9999;fades ink+age+needs+worth+miles+season;", 3);

@@ -43,6 +43,8 @@ public final class PromisesTest {
         onRefused();
         status();
         lastSeason();
+        fullShore();
+        shoreAfterShore();
         Check.finish();
     }
 
@@ -427,6 +429,12 @@ public final class PromisesTest {
         eq("13 INK", x.deed(0, 5), 0);
         eq("13 none", x.fade(2), NONE);
         eq("13 none", x.fade(-1), NONE);
+        x = Lakes.of(PLAIN + "fades 100;reads 50;");
+        x.write(1);
+        eq("13 the second", x.fade(1), 3);
+        eq("13 the first", x.fade(0), NONE);
+        eq("9 the second can be read", x.deed(1, 9), 1);
+        eq("9 the first can't be", x.deed(0, 9), 0);
         InkLake y = Lakes.of(PLAIN + "fades ink-249;reads 250;");
         y.write(0);
         eq("13 by one", y.fade(0), 1);
@@ -562,6 +570,11 @@ public final class PromisesTest {
         eq("17 by numbers", x.share(0), 2);
         x = Lakes.of("lake has 10 black 10 holds 10;village v miles 0;deed a of v needs 5 worth 1 by 9;deed b of v needs 5 worth 1 by 9;draws level/2;");
         eq("17 draws then", x.share(2), 7);
+        // a alone is worth 2; without a the lake is as DARK as at first, so b and c can be, worth 3
+        x = Lakes.of("lake has 50 black 101 holds 50;village v miles 0;deed a of v needs 49 worth 2 by 9;deed b of v needs 1 worth 2 by 9;"
+                + "deed c of v needs 1 worth 1 by 9;may needs=49 or dark<210 and dark>201;");
+        eq("17 GRAINS as they are then", x.share(0), 6);
+        eq("17 GRAINS as they are then", x.share(1), 3);
     }
 
     private static void all() {
@@ -615,6 +628,10 @@ public final class PromisesTest {
         eq("19 full", x.thinned(16, 150, 154, 2), 3);
         eq("19 full", x.thinned(16, 150, 154, 1), 3);
         eq("19 no sets", x.thinned(16, 149, NONE, 0), 0);
+        eq("19 more than it holds", x.thinned(1, 151, NONE, 0), 0);
+        eq("19 most BUCKETS", x.thinned(1, 9999, NONE, 0), 0);
+        eq("19 most dark", x.thinned(1, 135, 9999, 0), 0);
+        eq("19 no BUCKETS", x.thinned(1, 0, 0, 0), 0);
         eq("19 no sets", x.thinned(16, 149, NONE, 1), 0);
         eq("19 no sets", x.thinned(16, 149, NONE, 2), 0);
         eq("19 more", x.thinned(0, 135, NONE, 0), NONE);
@@ -703,6 +720,12 @@ public final class PromisesTest {
         eq("22 none", x.brief(-1), NONE);
         InkLake y = Lakes.of("lake has 1 black 1 holds 1;village v miles 0;deed abc of v needs 1 worth 0 by 0;");
         eq("22 alone", y.brief(0), 1);
+        InkLake z = Lakes.of("lake has 1 black 1 holds 1;village v miles 0;deed ax of v needs 1 worth 0 by 0;deed bx of v needs 1 worth 0 by 0;"
+                + "deed cdefgh of v needs 1 worth 0 by 0;deed cdefgi of v needs 1 worth 0 by 0;deed cdefg of v needs 1 worth 0 by 0;");
+        int[] short6 = {1, 1, 6, 6, 5};
+        for (int deed = 0; deed < short6.length; deed++) {
+            eq("22 six letters " + deed, z.brief(deed), short6[deed]);
+        }
     }
 
     private static void write() {
@@ -727,6 +750,9 @@ public final class PromisesTest {
         eq("23 nothing drawn", z.write(0), 0);
         eq("23 nothing drawn", z.has(6), 10);
         eq("23 nothing drawn", z.has(8), 1);
+        InkLake one = Lakes.of("lake has 1 black 10 holds 9;village v miles 0;deed a of v needs 1 worth 0 by 1;");
+        eq("23 one of one", one.write(0), 1000);
+        eq("23 one of one", one.has(6), 0);
         InkLake w = Lakes.of(PLAIN + "may needs>30;");
         eq("23 may not", w.write(0), NONE);
         eq("23 may", w.write(1), 250);
@@ -1141,5 +1167,109 @@ public final class PromisesTest {
         eq("13 to 999", x.fade(0), 2);
         Lakes.on(x, Lakes.image(998, 100, 250, 1, 0, 9, 0, 0, 0, 0, 99));
         eq("13 beyond 999", x.fade(0), NONE);
+    }
+
+    /** Six BROOKS, six VILLAGES, eight DEEDS: all rows to their ends. */
+    private static void fullShore() {
+        StringBuilder text = new StringBuilder("lake has 9999 black 9999 holds 9999;");
+        for (int k = 0; k < 8; k++) {
+            char c = (char) ('a' + k);
+            if (k < 6) {
+                text.append("brook brook").append(c).append(" gives ").append(k).append(" black ").append(10 + k).append(';');
+                text.append("village vill").append(c).append(" miles ").append(20 + k).append(';');
+            }
+        }
+        for (int k = 0; k < 8; k++) {
+            text.append("deed d").append((char) ('a' + k)).append(" of vill").append((char) ('a' + k * 3 % 6));
+            text.append(" needs ").append(1 + k).append(" worth 99 by ").append(92 + k).append(';');
+        }
+        InkLake x = Lakes.of(text.toString());
+        int[] due = {6, 6, 8, 9999, 0, 9999, 9999, 100, 0, 0, 0, 0};
+        for (int what = 0; what < due.length; what++) {
+            eq("6 full " + what, x.has(what), due[what]);
+        }
+        for (int k = 0; k < 6; k++) {
+            eq("8 full", x.brook(k, 0) * 100 + x.brook(k, 1), 110 * k - 9 * k + 10);
+            eq("10 full", x.miles(k), 20 + k);
+            eq("7 full", x.letter(0, k, 5), 1 + k);
+            eq("7 full", x.letter(0, k, 0), 2);
+            eq("7 full", x.letter(1, k, 4), 1 + k);
+            eq("7 full", x.letter(1, k, 0), 22);
+        }
+        eq("17 full", x.share(0), 255);
+        eq("17 full", x.share(1), 8 * 99);
+        eq("17 full", x.share(2), 36);
+        eq("18 full", x.all(255), 0);
+        eq("18 full", x.all(256), NONE);
+        eq("19 full", x.thinned(1, 9999, NONE, 0), 64);
+        eq("19 full", x.thinned(1, 9999, NONE, 2), 63);
+        eq("29 full", Lakes.ask(x, "total number"), 28);
+        eq("29 full", Lakes.ask(x, "often by 5=1"), 0);
+        eq("29 full", Lakes.ask(x, "often by 3=1"), 4);
+        eq("29 full", Lakes.ask(x, "last term<99"), 6);
+        for (int k = 7; k >= 0; k--) {
+            eq("7 full", x.letter(2, k, 1), 1 + k);
+            eq("9 full", x.deed(k, 0), k * 3 % 6);
+            eq("9 full", x.deed(k, 1), 1 + k);
+            eq("9 full", x.deed(k, 2), 99);
+            eq("9 full", x.deed(k, 3), 92 + k);
+            eq("23 full", x.write(k), 100);
+        }
+        eq("6 full", x.has(8), 8);
+        eq("6 full", x.has(9), 8);
+        eq("11 full", x.has(10), 8);
+        eq("11 full", x.kept(7, 1), 0);
+        eq("11 full", x.kept(0, 1), 7);
+        eq("12 full", x.later(60, 3), 255);
+        eq("30 full", x.image(), 39);
+        eq("31 full", x.octet(37), 0);
+        eq("31 full", x.octet(38) == NONE ? 1 : 0, 0);
+        eq("31 full", x.octet(39), NONE);
+        int[] back = new int[39];
+        for (int k = 0; k < 39; k++) {
+            back[k] = x.octet(k);
+        }
+        for (int k = 0; k < 8; k++) {
+            Check.yes("27 full", x.undo());
+        }
+        eq("6 full", x.has(8), 0);
+        Check.yes("32 full", Lakes.on(x, back));
+        eq("32 full", x.has(8), 8);
+        eq("32 full", x.has(5), 9999 - 36);
+        eq("16 full", x.missed(), 0);
+        StringBuilder tight = new StringBuilder("lake has 1 black 1 holds 1;draws 1");
+        while (tight.length() < 1598) {
+            tight.append("+1");
+        }
+        while (tight.length() < 1599) {
+            tight.append(' ');
+        }
+        tight.append(';');
+        eq("4 a full tape", Lakes.shore(x, tight.toString()), 2);
+    }
+
+    /** What one SHORE tells is gone in the next ones, good or faulty. */
+    private static void shoreAfterShore() {
+        InkLake x = Lakes.of(PLAIN + "dries 50;reads 9999;drought 100;draws 1;fades 250;may season>5;");
+        for (int k = 0; k < 3; k++) {
+            Lakes.shore(x, PLAIN);
+            eq("4 no dries", x.later(1, 0), 135);
+            eq("4 no draws", x.deed(0, 7), 30);
+            eq("4 no may", x.write(0), 250);
+            eq("4 no reads", x.deed(0, 9), 1);
+            eq("4 no fades", x.fade(0), NONE);
+            eq("4 no drought", x.years(1), 0);
+            Lakes.shore(x, PLAIN + "dries 50;reads 9999;drought 100;draws 1;fades 250;may season>5;brook");
+            eq("4 faulty", x.fault(0), 1);
+            eq("4 reads 1 still", x.deed(0, 9), 1);
+        }
+        for (int k = 0; k < 8; k++) {
+            Lakes.shore(x, "lake has 1 black 1 holds 1;may not not not [[[");
+            eq("4 opened", x.fault(0), 1);
+        }
+        eq("4 opened ones are closed", Lakes.shore(x, "lake has 1 black 1 holds 1;may not not not [[[all]]];"), 2);
+        Lakes.ask(x, "total ((((((");
+        eq("29 opened ones are closed", Lakes.ask(x, "total ((((((1))))))"), 0);
+        eq("29 opened ones are closed", x.fault(0), 0);
     }
 }
