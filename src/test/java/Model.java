@@ -100,6 +100,12 @@ final class Model {
     private BigInteger x = BigInteger.ONE;
     private List<Integer> latestOutflows = new ArrayList<>();
     private int[] picture = new int[0];
+    private int calls;
+
+    /** How many calls have been made. */
+    int calls() {
+        return calls;
+    }
 
     private int no(int group) {
         refused[group]++;
@@ -107,6 +113,7 @@ final class Model {
     }
 
     int feed(int a, int b, int c, int d, int e) {
+        calls++;
         if (tape.length() > 1580) {
             return no(0);
         }
@@ -117,6 +124,7 @@ final class Model {
     }
 
     boolean end(int n) {
+        calls++;
         if (n < 0 || n > tape.length()) {
             no(0);
             return false;
@@ -132,6 +140,7 @@ final class Model {
     }
 
     int shore() {
+        calls++;
         String text = take();
         try {
             Told t = new Text(text).shore();
@@ -152,6 +161,7 @@ final class Model {
     }
 
     int fault(int what) {
+        calls++;
         return what == 0 ? faultKind : what == 1 ? faultPlace : -1;
     }
 
@@ -164,6 +174,7 @@ final class Model {
     }
 
     int has(int what) {
+        calls++;
         long[] all = new long[12];
         if (told != null) {
             all[0] = told.brooks.size();
@@ -193,6 +204,7 @@ final class Model {
     }
 
     int letter(int kind, int which, int k) {
+        calls++;
         if (told == null || kind < 0 || kind > 2 || which < 0 || k < 0 || k > 5) {
             return -1;
         }
@@ -211,6 +223,7 @@ final class Model {
     }
 
     int brook(int b, int what) {
+        calls++;
         if (told == null || b < 0 || b >= told.brooks.size() || what < 0 || what > 1) {
             return -1;
         }
@@ -230,6 +243,7 @@ final class Model {
     }
 
     int deed(int d, int what) {
+        calls++;
         if (!isDeed(d) || what < 0 || what > 9) {
             return -1;
         }
@@ -241,10 +255,12 @@ final class Model {
     }
 
     int miles(int v) {
+        calls++;
         return told == null || v < 0 || v >= told.villages.size() ? -1 : told.villages.get(v).miles;
     }
 
     int kept(int k, int what) {
+        calls++;
         return k < 0 || k >= state.kept.size() || what < 0 || what > 3 ? -1 : (int) state.kept.get(k)[what];
     }
 
@@ -295,6 +311,7 @@ final class Model {
     }
 
     int later(int n, int what) {
+        calls++;
         if (told == null || n < 0 || what < 0 || what > 3 || n >= ahead().size()) {
             return -1;
         }
@@ -303,6 +320,7 @@ final class Model {
     }
 
     int fade(int d) {
+        calls++;
         if (!isDeed(d) || state.written[d] == null) {
             return -1;
         }
@@ -316,6 +334,7 @@ final class Model {
     }
 
     int soonest(int d) {
+        calls++;
         if (isDeed(d)) {
             List<State> all = ahead();
             for (int n = 0; n < all.size(); n++) {
@@ -328,6 +347,7 @@ final class Model {
     }
 
     int dip(int d, int what) {
+        calls++;
         if (!isDeed(d) || what < 0 || what > 1) {
             return -1;
         }
@@ -342,6 +362,7 @@ final class Model {
     }
 
     int missed() {
+        calls++;
         int bits = 0;
         for (int d = 0; d < deeds(); d++) {
             if (state.written[d] == null && told.deeds.get(d).term < state.season) {
@@ -362,6 +383,7 @@ final class Model {
     }
 
     int share(int what) {
+        calls++;
         if (told == null || what < 0 || what > 2) {
             return -1;
         }
@@ -388,6 +410,7 @@ final class Model {
     }
 
     int all(int bits) {
+        calls++;
         if (told == null || bits < 0 || bits >= 1 << deeds()) {
             return -1;
         }
@@ -417,6 +440,7 @@ final class Model {
     }
 
     int thinned(int more, int buckets, int dark, int what) {
+        calls++;
         if (told == null || more < 1 || more > 999 || buckets < 0 || buckets > 9999 || dark < -1 || dark > 9999 || what < 0 || what > 2
                 || state.season == 999) {
             return -1;
@@ -449,6 +473,7 @@ final class Model {
     }
 
     int outflows() {
+        calls++;
         String rows = take();
         if (told == null || rows.length() % 2 == 1 || rows.isEmpty() || rows.length() > 20 || state.season + rows.length() / 2 > 999) {
             return no(1);
@@ -469,6 +494,7 @@ final class Model {
     }
 
     int outflow(int what) {
+        calls++;
         if (latestOutflows.isEmpty() || what < 0 || what > 1) {
             return -1;
         }
@@ -476,6 +502,7 @@ final class Model {
     }
 
     int brief(int d) {
+        calls++;
         if (!isDeed(d)) {
             return -1;
         }
@@ -497,6 +524,7 @@ final class Model {
     }
 
     int write(int d) {
+        calls++;
         if (!isDeed(d) || !can(state, d)) {
             return no(2);
         }
@@ -506,6 +534,7 @@ final class Model {
     }
 
     int pour(int grains) {
+        calls++;
         if (told == null || grains < 1 || grains > 999 || state.grains + grains > 9999) {
             return no(2);
         }
@@ -515,6 +544,7 @@ final class Model {
     }
 
     int seasons(int n) {
+        calls++;
         if (told == null || n < 1 || n > 100 || state.season + n > 999) {
             return no(3);
         }
@@ -532,6 +562,7 @@ final class Model {
     }
 
     int years(int n) {
+        calls++;
         if (told == null || n < 1 || n > 100 || state.season + n > 999) {
             return no(3);
         }
@@ -551,6 +582,7 @@ final class Model {
     }
 
     boolean undo() {
+        calls++;
         if (acts.isEmpty()) {
             no(4);
             return false;
@@ -560,6 +592,7 @@ final class Model {
     }
 
     boolean seed(int s) {
+        calls++;
         if (s < 0) {
             no(5);
             return false;
@@ -569,6 +602,7 @@ final class Model {
     }
 
     long ask() {
+        calls++;
         String text = take();
         if (told == null) {
             return InkLake.NOTHING;
@@ -616,16 +650,19 @@ final class Model {
     }
 
     int image() {
+        calls++;
         picture = draw(state, deeds());
         return picture.length;
     }
 
     int octet(int k) {
+        calls++;
         return k < 0 || k >= picture.length ? -1 : picture[k];
     }
 
     /** Reads the bytes into a state, and looks whether that state would be drawn so. */
     boolean on() {
+        calls++;
         int[] bytes = take().chars().toArray();
         if (told == null || bytes.length != 7 + 4 * deeds()) {
             no(5);
@@ -653,6 +690,7 @@ final class Model {
     }
 
     int status(int what) {
+        calls++;
         return what < 0 || what > 5 ? -1 : refused[what];
     }
 

@@ -1269,12 +1269,13 @@ public final class PromisesTest {
             ones.append("+1");
             draws.append("+1");
         }
-        for (int k = 0; k < 8; k++) {
+        x = new InkLake();
+        for (int k = 0; k < 3; k++) {
             Lakes.shore(x, draws + ";");
             eq("4 a long SUM again", x.deed(1, 7), 601);
             eq("29 a long SUM again", Lakes.ask(x, ones.toString()), 1202);
         }
-        Lakes.shore(x, "lake has 100 black 1 holds 100;village v miles 1;deed d of v needs 1 worth 1 by 1;");
+        x = Lakes.of("lake has 100 black 1 holds 100;village v miles 1;deed d of v needs 1 worth 1 by 1;");
         eq("9 INK 1", x.write(0), 1);
         eq("9 reads 1 without", x.deed(0, 9), 1);
         for (int k = 0; k < 8; k++) {

@@ -8,6 +8,8 @@ public final class RandomTest {
     private static final int TEXTS = 60000;
     private static final int RUNS = 1500;
     private static final int CALLS = 400;
+    // Nothing is promised behind an object's 512th call; the dearest call of a run makes less than 100 of them.
+    private static final int ALL_CALLS = 410;
     private static final String[] TOKENS = ("lake has black holds brook gives village miles deed of needs worth by draws fades may dries "
             + "reads drought season level dark ink age number term or and not all min max first total a b c abcdef abcdefg villages "
             + "0 1 5 99 100 999 1000 9999 10000 ; ; ; ( ) [ ] , + - * / < > = # A . \n").split(" ");
@@ -16,6 +18,7 @@ public final class RandomTest {
     private final StringBuilder text = new StringBuilder();
     private final List<String> villages = new ArrayList<>();
     private int deepest;
+    private int callsBeside;
 
     private RandomTest(long seed) {
         random = new Random(seed);
@@ -283,7 +286,8 @@ public final class RandomTest {
             log.append(shore);
             Check.eq("shore " + shore, x.shore(), m.shore());
         }
-        for (int k = 0; k < CALLS; k++) {
+        for (int k = 0; k < CALLS && m.calls() + callsBeside < ALL_CALLS; k++) {
+            callsBeside++;
             call(x, m, "run " + number + " call " + k + " of " + log);
         }
     }
@@ -332,10 +336,10 @@ public final class RandomTest {
 
     private void thinned(InkLake x, Model m, String w) {
         int more = odd(onceIn(3) ? 999 : 30);
-        InkLake ahead = x;
-        int level = ahead.later(1, 0);
+        callsBeside += 2;
+        int level = x.later(1, 0);
         int buckets = onceIn(3) ? odd(200) : level + (onceIn(2) ? 0 : below(3) * more);
-        int dark = onceIn(2) ? -1 : onceIn(3) ? odd(400) : ahead.later(1, 2);
+        int dark = onceIn(2) ? -1 : onceIn(3) ? odd(400) : x.later(1, 2);
         int what = odd(3);
         Check.eq("thinned " + w, x.thinned(more, buckets, dark, what), m.thinned(more, buckets, dark, what));
     }
@@ -345,6 +349,7 @@ public final class RandomTest {
         int lost = onceIn(2) ? 0 : below(9);
         StringBuilder bytes = new StringBuilder();
         for (int k = 1; k <= rows && k < 14; k++) {
+            callsBeside++;
             int level = onceIn(20) ? below(70000) : Math.max(0, x.later(k, 0) - lost * k);
             bytes.append((char) (level >> 8 & 255)).append((char) (level & 255));
         }
@@ -379,6 +384,7 @@ public final class RandomTest {
         m.image();
         int[] bytes = new int[length];
         for (int k = 0; k < length; k++) {
+            callsBeside++;
             bytes[k] = x.octet(k);
         }
         for (int k = below(3); k > 0; k--) {
