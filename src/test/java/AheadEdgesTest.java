@@ -644,5 +644,15 @@ public final class AheadEdgesTest {
         InkLake x = Lakes.of("lake has 1 black 1 holds 1;brook abc gives 1 black 1;village abd miles 0;"
                 + "deed abe of abd needs 1 worth 1 by 1;deed b of abd needs 1 worth 1 by 1;");
         brief(x, 1, 1);
+        x = Lakes.of("lake has 1 black 1 holds 1;village va miles 0;village vb miles 0;village vc miles 0;village vd miles 0;"
+                + "village ve miles 0;village dab miles 0;deed dac of va needs 1 worth 1 by 1;deed e of va needs 1 worth 1 by 1;");
+        brief(x, 1, 1);
+        brief(named("az", "bz", "cz", "dz", "ez", "fz", "gz", "hz"), 1, 1, 1, 1, 1, 1, 1, 1);
+        // DEEDS of the SHORES ahead are none of this one.
+        x = named("abc", "abd", "abe", "abf");
+        for (int k = 0; k < 3; k++) {
+            Lakes.shore(x, "lake has 1 black 1 holds 1;village zz miles 0;deed abg of zz needs 1 worth 1 by 1;");
+            brief(x, 1);
+        }
     }
 }
