@@ -44,6 +44,7 @@ public final class TextEdgesTest {
         sixOpenInTests();
         sixOpenInQuestions();
         closedOnesAreNotOpen();
+        theSeventhBehindClosedOnes();
         aFullTape();
         anEmptyTape();
         questionsEnd();
@@ -578,6 +579,35 @@ public final class TextEdgesTest {
         askGood("IV not at once", "most " + six + "-" + six + "+" + times(6, "by ") + "9+" + times(6, "by ") + "9", 2);
         askGood("IV not at once", "often " + times(6, "not ") + "all and " + times(6, "not ") + "all", 1);
         askGood("IV by ends with its PART", "most by 0+by 0+by 0+by 0+by 0+by 0+by 0+by 0", 8);
+    }
+
+    private static void theSeventhBehindClosedOnes() {
+        String[] closed = {"not all", "not not not all", "[all]", "[[[all]]]", "not[not all]", "(1)=1", "((1))=((1))", "min(1,2)<max(1,2)"};
+        String[] openers = {"not ", "[", "(", "min("};
+        for (String ahead : closed) {
+            good("I six behind closed ones", LAKE + "may " + ahead + " or " + times(6, "not ") + "all;", 2);
+            askGood("IV six behind closed ones", "often " + ahead + " or " + times(6, "not ") + "all", 1);
+            for (String joint : new String[] {" and ", " or "}) {
+                for (String opener : openers) {
+                    String seven = ahead + joint + times(6, opener) + (opener.equals("min(") ? "min|(" : "|" + opener) + "1";
+                    fault("I the 7th behind closed ones", 4, LAKE + "may " + seven);
+                    askFault("IV the 7th behind closed ones", 4, "often " + seven);
+                }
+                askFault("IV the 7th by behind closed ones", 4, "often " + ahead + joint + times(6, "by ") + "|by 0=1");
+            }
+        }
+        for (String ahead : new String[] {"by 0=1", "by by 0=0", "by(by 0)=0"}) {
+            askFault("IV the 7th by behind closed ones", 4, "often " + ahead + " and " + times(6, "by ") + "|by 0=1");
+            askFault("IV the 7th not behind closed ones", 4, "often " + ahead + " or " + times(6, "not ") + "|not all");
+        }
+        for (String ahead : new String[] {"(1)", "((1))", "min(1,2)", "max((1),2)"}) {
+            for (String sign : new String[] {"+", "-", "*", "/"}) {
+                String seven = ahead + sign + times(6, "(") + "|(1";
+                fault("I the 7th behind closed ones", 4, LAKE + "draws " + seven);
+                fault("I the 7th behind closed ones", 4, LAKE + "fades " + seven);
+                askFault("IV the 7th behind closed ones", 4, "most " + seven);
+            }
+        }
     }
 
     private static String filled(String text, int length) {
