@@ -1,4 +1,4 @@
-/** Each BROOK, VILLAGE, DEED by itself: what is told of one is told of no other one, and of none such nothing. */
+/** Each BROOK, VILLAGE, DEED, rule by itself: what is told of one is told of no other one, and of none such nothing. */
 public final class EachOneTest {
     private static final int NONE = InkLake.NONE;
     private static final int DEEDS = 8;
@@ -18,6 +18,7 @@ public final class EachOneTest {
         sharedByNumbers();
         sharedWithItsGrains();
         allByNumbers();
+        rulesInAnyOrder("", 0);
         noneSuch();
         noneSuchAsBits();
         Check.finish();
@@ -303,6 +304,35 @@ public final class EachOneTest {
         Check.eq("III a, b, c: least bits of like ones", y.share(0), 7);
         Check.eq("III a, b, c: worth", y.share(1), 4);
         Check.eq("III a, b, c: BUCKETS", y.share(2), 40);
+    }
+
+    private static final String[] RULES = {"draws needs+3;", "fades age+4;", "may level>50;"};
+
+    /** Each row of unlike rules that there can be, wherever it stands. */
+    private static void rulesInAnyOrder(String told, int bits) {
+        String village = "village v miles 1;";
+        String deed = "deed d of v needs 7 worth 1 by 9;";
+        for (String text : new String[] {told + village + deed, village + told + deed, village + deed + told}) {
+            rulesHold(text, bits);
+        }
+        for (int k = 0; k < RULES.length; k++) {
+            if ((bits >> k & 1) == 0) {
+                rulesInAnyOrder(told + RULES[k], bits | 1 << k);
+            }
+        }
+    }
+
+    private static void rulesHold(String text, int bits) {
+        int drawn = (bits & 1) != 0 ? 10 : 7;
+        InkLake x = Lakes.of("lake has 50 black 50 holds 99;" + text);
+        Check.eq("I draws: " + text, x.deed(0, 7), drawn);
+        Check.eq("I may: " + text, x.deed(0, 8), (bits & 4) != 0 ? 0 : 1);
+        x = Lakes.of("lake has 51 black 51 holds 99;" + text);
+        Check.eq("I may, one BUCKET more: " + text, x.write(0), 100);
+        Check.eq("I BUCKETS drawn: " + text, x.has(5), 51 - drawn);
+        x.seasons(1);
+        Check.eq("I fades: " + text, x.deed(0, 5), (bits & 2) != 0 ? 96 : 100);
+        Check.eq("IV a QUESTION beside them: " + text, Lakes.ask(x, "most draws*100+ink"), 100 * drawn + ((bits & 2) != 0 ? 96 : 100));
     }
 
     private static void noneSuch() {
